@@ -58,9 +58,7 @@ public final class DregsVerdict {
     private int faultPlace = NONE;
 
     private Court court = new Court();
-    // The next text is taken down here, so that a FAULT in it leaves the court as it is.
-    private Court spare = new Court();
-    private final Clerk clerk = new Clerk();
+    private final Clerk clerk = new Clerk(tape);
     private final Reckoner reckoner = new Reckoner();
 
     private final Docket now = new Docket();
@@ -107,15 +105,13 @@ public final class DregsVerdict {
             throw new IllegalArgumentException("the tape has not so many bytes");
         }
         tapeLength = 0;
-        int found = clerk.takeDown(tape, n, spare);
+        int found = clerk.takeDown(n);
         if (found != 0) {
             faultPlace = clerk.at;
             now.refused[REFUSED_TEXTS]++;
             return found;
         }
-        Court former = court;
-        court = spare;
-        spare = former;
+        court = clerk.handOver(court);
         faultPlace = NONE;
         imaged = false;
         now.open(court);
@@ -1227,9 +1223,10 @@ public final class DregsVerdict {
         private static final int EXPRS_WITHIN = 6;
         private static final int NOTS_IN_A_ROW = 6;
 
-        private int[] text = new int[0];
+        private final int[] text;
         private int length;
-        private Court court;
+        // A draft of its own, so that a FAULT leaves the court that is heard as it is.
+        private Court court = new Court();
         private int rule;
         // The token that is looked at: its first byte, and the one behind its last.
         int at;
@@ -1239,11 +1236,20 @@ public final class DregsVerdict {
         private int taken;
         private int faultKind;
 
+        Clerk(int[] tape) {
+            text = tape;
+        }
+
+        /** Gives the draft away for a court that is no longer needed, which the next draft overwrites. */
+        Court handOver(Court former) {
+            Court draft = court;
+            court = former;
+            return draft;
+        }
+
         /** 0, or the FAULT, which is at 'at' then. */
-        int takeDown(int[] bytes, int n, Court into) {
-            text = bytes;
-            length = Math.max(0, Math.min(n, bytes.length));
-            court = into;
+        int takeDown(int n) {
+            length = Math.max(0, Math.min(n, text.length));
             court.clear();
             behind = 0;
             faultKind = 0;
