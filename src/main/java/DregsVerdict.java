@@ -58,7 +58,7 @@ public final class DregsVerdict {
     private int faultPlace = NONE;
 
     private Court court = new Court();
-    private final Clerk clerk = new Clerk(tape);
+    private final Clerk clerk = new Clerk();
     private final Reckoner reckoner = new Reckoner();
 
     private final Docket now = new Docket();
@@ -105,7 +105,7 @@ public final class DregsVerdict {
             throw new IllegalArgumentException("the tape has not so many bytes");
         }
         tapeLength = 0;
-        int found = clerk.takeDown(n);
+        int found = clerk.takeDown(tape, n);
         if (found != 0) {
             faultPlace = clerk.at;
             now.refused[REFUSED_TEXTS]++;
@@ -1216,14 +1216,14 @@ public final class DregsVerdict {
         private static final int END = 0;
         private static final int WORD = 1;
         private static final int NUMBER = 2;
+        // A sign, or a byte that is no token: none is ever asked for, so it stands nowhere.
         private static final int SIGN = 3;
-        private static final int NO_TOKEN = 4;
 
         private static final int MOST_DIGITS = 4;
         private static final int EXPRS_WITHIN = 6;
         private static final int NOTS_IN_A_ROW = 6;
 
-        private final int[] text;
+        private int[] text = new int[0];
         private int length;
         // A draft of its own, so that a FAULT leaves the court that is heard as it is.
         private Court court = new Court();
@@ -1236,10 +1236,6 @@ public final class DregsVerdict {
         private int taken;
         private int faultKind;
 
-        Clerk(int[] tape) {
-            text = tape;
-        }
-
         /** Gives the draft away for a court that is no longer needed, which the next draft overwrites. */
         Court handOver(Court former) {
             Court draft = court;
@@ -1248,7 +1244,8 @@ public final class DregsVerdict {
         }
 
         /** 0, or the FAULT, which is at 'at' then. */
-        int takeDown(int n) {
+        int takeDown(int[] bytes, int n) {
+            text = bytes;
             length = Math.max(0, Math.min(n, text.length));
             court.clear();
             behind = 0;
@@ -1272,6 +1269,10 @@ public final class DregsVerdict {
             return place >= 0 && place < length && place < text.length ? text[place] : -1;
         }
 
+        private static boolean isBlank(int c) {
+            return c == 32 || c == 10;
+        }
+
         private static boolean isLetter(int c) {
             return c >= 'a' && c <= 'z';
         }
@@ -1282,44 +1283,28 @@ public final class DregsVerdict {
 
         private void advance() {
             at = behind;
-            while (at < length && (byteAt(at) == 32 || byteAt(at) == 10)) {
+            while (at < length && isBlank(byteAt(at))) {
                 at++;
             }
             behind = at;
-            int c = byteAt(at);
+            value = 0;
             if (at >= length) {
                 kind = END;
-            } else if (isLetter(c)) {
+            } else if (isLetter(byteAt(at))) {
                 kind = WORD;
                 while (behind < length && isLetter(byteAt(behind))) {
                     behind++;
                 }
-            } else if (isDigit(c)) {
+            } else if (isDigit(byteAt(at))) {
                 kind = NUMBER;
-                scanNumber();
-            } else {
-                kind = isSignOfText(c) ? SIGN : NO_TOKEN;
-                value = c;
-                behind++;
-            }
-        }
-
-        private void scanNumber() {
-            value = 0;
-            while (behind < length && isDigit(byteAt(behind))) {
-                if (behind - at < MOST_DIGITS) {
-                    value = 10 * value + byteAt(behind) - '0';
+                while (behind < length && isDigit(byteAt(behind))) {
+                    value = isTooLong() ? value : 10 * value + byteAt(behind) - '0';
+                    behind++;
                 }
+            } else {
+                kind = SIGN;
+                value = byteAt(at);
                 behind++;
-            }
-        }
-
-        private static boolean isSignOfText(int c) {
-            switch (c) {
-                case ';': case '(': case ')': case '+': case '-': case '*': case '/': case '<': case '=':
-                    return true;
-                default:
-                    return false;
             }
         }
 
@@ -1332,7 +1317,7 @@ public final class DregsVerdict {
                 return false;
             }
             for (int i = 0; i < word.length(); i++) {
-                if (byteAt(at + i) != word.charAt(i)) {
+                if (at + i >= text.length || text[at + i] != word.charAt(i)) {
                     return false;
                 }
             }

@@ -34,6 +34,10 @@ public final class PromiseTest {
         games();
         years();
         images();
+        fullBench();
+        smallerCourt();
+        askedTwice();
+        fromNow();
         Due.end();
     }
 
@@ -181,6 +185,11 @@ public final class PromiseTest {
         Due.fault("reads 1<not 1;", 3, 8);
         Due.fault("reads not;", 1, 9);
         Due.fault("reads levels;", 3, 6);
+        Due.fault("reads 1 and leaf;", 3, 12);
+        Due.fault("reads 1 or leaf;", 3, 11);
+        Due.fault("reads 2*leaf;", 3, 8);
+        Due.fault("reads (leaf);", 3, 7);
+        Due.fault("reads not leaf;", 3, 10);
         Due.fault("reads not not not not not not 1;", 0, -1);
         Due.fault("reads not not not not not not not 1;", 2, 30);
         Due.fault("reads not not not not not not(not 1);", 0, -1);
@@ -255,6 +264,10 @@ public final class PromiseTest {
             + "drinks 40*most+where; reads odd;");
         Due.is("most and where", y.drunk(0, 1), 83);
         Due.is("odd", y.verdict(1, 0), 4);
+        String leaves = "leaf 4 1;leaf 3 1;leaf 4 1;judge 0 6 0;judge 0 6 0;pot 99;drinks ";
+        Due.is("most alone", Due.told(leaves + "most;").drunk(0, 1), 2);
+        Due.is("where alone", Due.told(leaves + "where;").drunk(0, 1), 4);
+        Due.is("odd alone", Due.told(leaves + "odd;").drunk(0, 1), 1);
         // The second judge sees the leaf where the first one stirred it.
         DregsVerdict z = Due.told("leaf 0 1;judge 0 8 0;judge 0 6 0;judge 0 6 0;pot 50;drinks where;");
         Due.is("ahead of the stir", z.drunk(0, 1), 0);
@@ -392,6 +405,8 @@ public final class PromiseTest {
         Due.is("refused", x.count(13), 1);
         Due.is("acts", x.count(9), 2);
         Due.missing("change(3, 3)", () -> x.change(3, 3) ? 1 : 0);
+        Due.missing("change(3, 0)", () -> x.change(3, 0) ? 1 : 0);
+        Due.missing("change(-1, 0)", () -> x.change(-1, 0) ? 1 : 0);
         Due.missing("change(0, -1)", () -> x.change(0, -1) ? 1 : 0);
         Due.promise("12 hand");
         Due.is("hand(1, 12)", x.hand(1, 12), 7);
@@ -529,6 +544,10 @@ public final class PromiseTest {
         // The cup is full once only, so that the leaf never comes back.
         DregsVerdict never = Due.told("leaf 0 1;judge 0 6 0;judge 0 7 0;pot 10;drinks 1-(case=0);");
         Due.is("never", never.round(), -1);
+        // The leaf goes to the other side in the first case and back in the last one.
+        String there = "leaf 0 1;judge 0 6 0;judge 0 12 0;pot 10;drinks 10*(0<case and case<%d);";
+        Due.is("in the 60th", Due.told(String.format(there, 59)).round(), 60);
+        Due.is("not in the 61st", Due.told(String.format(there, 60)).round(), -1);
         Due.promise("22 swept");
         Due.is("swept(0)", x.swept(0), 1);
         Due.is("swept(3)", x.swept(3), 15);
@@ -578,6 +597,8 @@ public final class PromiseTest {
         DregsVerdict x = Due.told("judge 1 6 0;judge 2 6 0;judge 3 6 0;pot 6;reads level;");
         Due.is("orders(3, -1)", x.orders(3, -1), 2);
         Due.is("orders(3, 0)", x.orders(3, 0), 0);
+        Due.is("orders(1, -1)", x.orders(1, -1), 2);
+        Due.is("orders(2, -1)", x.orders(2, -1), 2);
         Due.is("orders(1, 0)", x.orders(1, 0), 1);
         Due.is("orders(1, 1)", x.orders(1, 1), 2);
         Due.is("orders(1, 2)", x.orders(1, 2), 0);
@@ -641,6 +662,7 @@ public final class PromiseTest {
         Due.is("toPour(4)", x.toPour(4), 20);
         Due.is("toPour(0)", x.toPour(0), 0);
         Due.is("the pot 99", Due.told("reads level=99;").toPour(1), 99);
+        Due.is("each from now", Due.told("leaf 0 1;judge 0 7 0;reads where;").toPour(3), 30);
         Due.is("none", Due.told("reads level=100;").toPour(1), -1);
         Due.missing("toPour(5)", () -> x.toPour(5));
         Due.missing("toPour(-1)", () -> x.toPour(-1));
@@ -739,6 +761,12 @@ public final class PromiseTest {
         Due.is("so without", two.handed(2), 1);
         // The first one has 9 already, and the second one stirs by nothing already: no other hand is as good.
         Due.is("another one than one has", two.handed(0), 0);
+        // Only who sits first stirs a cup that is not empty: that is judge 1.
+        DregsVerdict three = Due.told("judge 0 6 0;judge 0 6 0;judge 0 6 0;leaf 0 1;pot 10;drinks 10*(seat=1);reads where=3;");
+        three.change(0, 1);
+        three.read(1, 1);
+        Due.is("by judge 1 alone", three.handed(0), 1);
+        Due.is("100 by who", three.handed(1), 109);
         two.change(0, 1);
         two.cases(1);
         Due.is("from now on", two.handed(2), 0);
@@ -760,6 +788,11 @@ public final class PromiseTest {
         DregsVerdict y = Due.told("judge 0 6 0;reads 2;");
         Due.is("all alike: the first", y.look(0), 1);
         Due.is("all alike: one", y.look(1), 1);
+        // Only by HAND 12 the leaf goes one place on.
+        DregsVerdict heavy = Due.told("leaf 0 6;judge 0 6 0;pot 10;reads where=1;");
+        Due.is("HAND 12 too", heavy.look(1), 2);
+        Due.is("the second case", Due.told("leaf 0 6;judge 0 6 0;pot 10;reads (case=1)*where;").look(0), 2);
+        Due.is("the 20th case", Due.told("leaf 0 6;judge 0 6 0;pot 10;reads (case=19)*where;").look(0), 20);
         Due.is("no judges", new DregsVerdict().look(0), -1);
         Due.is("no judges", new DregsVerdict().look(1), 0);
         Due.missing("look(2)", () -> x.look(2));
@@ -796,6 +829,8 @@ public final class PromiseTest {
         Due.missing("game(0, 1, -1)", () -> x.game(0, 1, -1));
         Due.missing("game(2, 2, 0)", () -> x.game(2, 2, 0));
         Due.missing("game(0, -1, 0)", () -> x.game(0, -1, 0));
+        Due.missing("game(2, 0, 0)", () -> x.game(2, 0, 0));
+        Due.missing("game(-1, 0, 0)", () -> x.game(-1, 0, 0));
     }
 
     /** A seed behind which the draws are as told, found by trying; each draw is {n, what it must be}. */
@@ -905,5 +940,92 @@ public final class PromiseTest {
             Due.is("undo()", full.undo(), left);
             Due.is("the pot", full.count(3), left + 3);
         }
+    }
+
+    /** Every question once; none may change anything. */
+    private static int[] allAnswers(DregsVerdict x) {
+        int v = x.verdict(1, 0);
+        int last = x.count(1) - 1;
+        int leaf = x.count(0) - 1;
+        return new int[] {v, x.verdict(60, 1), x.lies(leaf, 7), x.often(v, 20), x.first(v), x.round(), x.pleased(30),
+            x.swept(5), x.orders(v, -1), x.orders(v, last), x.decisive(), x.toTurn(v), x.toDrink(0, v), x.toPour(v),
+            x.toLay(leaf, v), x.better(last), x.stir(last, leaf, 55), x.apart(0, leaf), x.drunk(0, 9), x.thirstiest(9),
+            x.streak(60), x.come(9), x.weight(3), x.heap(3), x.handed(0), x.handed(1), x.handed(2), x.look(0), x.look(1),
+            x.game(0, last, 0), x.game(0, last, 1), x.years(7, 60, 0), x.years(7, 60, 1), x.years(7, 60, 2), x.seat(last),
+            x.judge(last, 3), x.judge(last, 5), x.leaf(leaf, 0), x.count(4), x.count(5), x.count(6), x.count(7), x.count(8)};
+    }
+
+    /** What was looked at before must not matter: a look far ahead stands before each question. */
+    private static void fromNow() {
+        Due.promise("each question is asked from now on");
+        // The first one drinks in the first case only, and then the leaf stays where it is; later it goes on.
+        DregsVerdict x = Due.told("leaf 0 1;judge 0 6 1;judge 9 7 0;pot 10;drinks 3*(case=0);");
+        DregsVerdict y = Due.told("judge 0 6 0;judge 0 6 0;judge 0 6 0;drinks (seat=1)=(case=0);reads case=0;");
+        Due.Call[] calls = {() -> x.often(1, 1), () -> x.first(2), x::round, () -> x.pleased(1), () -> x.swept(1),
+            () -> x.come(1), () -> y.thirstiest(1), () -> y.streak(2)};
+        int[] due = {1, 2, 1, 0, 1, 2, 1, 1};
+        for (int i = 0; i < calls.length; i++) {
+            x.lies(0, 9);
+            y.verdict(9, 0);
+            Due.is("answer " + i, calls[i], due[i]);
+        }
+    }
+
+    private static void alike(String what, int[] got, int[] want) {
+        for (int i = 0; i < want.length; i++) {
+            Due.is(what + ", answer " + i, got[i], want[i]);
+        }
+    }
+
+    private static final String FULL = "leaf 3 1;leaf 3 2;leaf 3 3;leaf 4 4;leaf 5 5;leaf 6 6;leaf 11 7;leaf 0 1;"
+        + "judge 3 9 1;barrister 5 2 2;judge 7 12 3;judge 9 0 4;barrister 1 7 0;judge 2 5 1;judge 4 8 2;judge 6 11 3;pot 97;";
+
+    private static void fullBench() {
+        Due.promise("eight leaves, eight judges");
+        DregsVerdict x = Due.told(FULL);
+        x.read(20, x.verdict(20, 0));
+        alike("alike twice", allAnswers(x), allAnswers(x));
+        Due.is("the party of the last one", x.judge(7, 5), 132);
+        Due.is("who is last", x.seat(7), 7);
+        Due.is("the heap", x.heap(3), 7);
+        Due.is("the weight", x.weight(3), 6);
+        Due.is("change(0, 7)", x.change(0, 7), true);
+        Due.is("who is last", x.seat(7), 0);
+        Due.missing("judge 8", () -> x.judge(8, 0));
+        Due.missing("leaf 8", () -> x.leaf(8, 0));
+        Due.is("all judges are turned at most", x.toTurn(x.verdict(1, 0)), 0);
+    }
+
+    private static void smallerCourt() {
+        Due.promise("a smaller court behind larger ones");
+        String small = "leaf 3 5;leaf 2 1;judge 1 8 1;judge 2 7 2;";
+        DregsVerdict x = new DregsVerdict();
+        Due.tell(x, FULL + "drinks most+odd;reads level+most;");
+        x.cases(3);
+        Due.tell(x, FULL + "drinks most+odd;reads level+most;");
+        x.cases(4);
+        Due.is("the smaller one", Due.tell(x, small), 0);
+        alike("as if it were the first", allAnswers(x), allAnswers(Due.told(small)));
+        Due.is("a fault far on", Due.tell(x, FULL + "pot 1;"), 5);
+        alike("as if it had not been told", allAnswers(x), allAnswers(Due.told(small)));
+    }
+
+    private static void askedTwice() {
+        Due.promise("questions change nothing");
+        DregsVerdict x = Due.told("leaf 3 1;leaf 8 2;judge 9 9 1;barrister 4 3 2;judge 7 8 0;pot 77;drinks thirst+odd;");
+        int[] before = allAnswers(x);
+        alike("asked again", allAnswers(x), before);
+        x.cases(3);
+        x.change(0, 2);
+        allAnswers(x);
+        x.undo();
+        x.undo();
+        alike("undone", allAnswers(x), before);
+        x.image();
+        x.cases(3);
+        x.hand(1, 12);
+        allAnswers(x);
+        x.restore();
+        alike("restored", allAnswers(x), before);
     }
 }
