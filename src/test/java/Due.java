@@ -45,6 +45,21 @@ final class Due {
         is(call, got, IAE);
     }
 
+    interface CallWith {
+        int answer(int n);
+    }
+
+    /** Numbers that are taken from least to top, and beyond them an answer (or NSEE, IAE). */
+    static void taken(String call, int least, int top, int beyond, CallWith with) {
+        for (int n : new int[] {least, top}) {
+            int got = answerOf(() -> with.answer(n));
+            is(call + " of " + n + " is taken, not " + shown(got), got != beyond, true);
+        }
+        for (int n : new int[] {least - 1, top + 1, Integer.MIN_VALUE, Integer.MAX_VALUE}) {
+            is(call + " of " + n, () -> with.answer(n), beyond);
+        }
+    }
+
     /** The answer, or which exception; one that the document does not name goes on and fails the test. */
     static int answerOf(Call call) {
         try {
