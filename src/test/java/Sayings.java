@@ -40,11 +40,11 @@ final class Sayings {
         Due.end();
     }
 
-    /** The words of "Terms" (0) and of each promise behind its call's head, with single blanks. */
+    /** The words of "Terms", and how long an object is used (0), and of each promise behind its call's head. */
     static String[] sections() throws Exception {
         String document = Files.readString(DOCUMENT);
         String[] sections = new String[PROMISES + 1];
-        sections[0] = between(document, "## Terms\n", "The constants:");
+        sections[0] = between(document, "==== 1.\n", "## The public face") + between(document, "## Terms\n", "The constants:");
         for (int p = 1; p <= PROMISES; p++) {
             String section = between(document, "## Promise " + p + ":", "\n## ");
             sections[p] = section.substring(section.indexOf("`: ") + 3);
