@@ -409,6 +409,7 @@ public final class AheadEdgesTest {
     @Says("TO POUR: the least POT (0 to 99) by which a VERDICT comes; none.")
     private static void leastPot() {
         Due.is("POT 0", Due.told("reads level=0;").toPour(1), 0);
+        Due.is("not below 0", Due.told("reads level<1;").toPour(1), 0);
         Due.is("POT 1", Due.told("reads 0<level;").toPour(1), 1);
         Due.is("POT 99", Due.told("reads level=99;").toPour(1), 99);
         Due.is("the least", Due.told("reads level=98 or level=3;").toPour(1), 3);

@@ -471,6 +471,29 @@ public final class CaseEdgesTest {
         lie("still put", x, 11, 5);
         x.undo();
         lie("all undone", x, 0, 5);
+        ofAFullBench();
+    }
+
+    private static void ofAFullBench() {
+        DregsVerdict x = Due.told("leaf 0 1;leaf 1 1;leaf 2 1;leaf 3 1;leaf 4 1;leaf 5 1;leaf 6 1;leaf 7 1;"
+            + "judge 0 0 0;judge 0 1 0;judge 0 2 0;judge 0 3 0;judge 0 4 0;judge 0 5 0;judge 0 7 0;judge 0 8 0;pot 99;");
+        x.put(7, 11);
+        x.change(7, 0);
+        x.hand(7, 12);
+        x.cases(20);
+        x.change(7, 6);
+        x.pot(3);
+        for (int left = 5; left >= 0; left--) {
+            Due.is("undo()", x.undo(), left);
+        }
+        for (int i = 0; i < 8; i++) {
+            Due.is("leaf " + i, x.leaf(i, 0), i);
+            Due.is("seat " + i, x.seat(i), i);
+            Due.is("the hand of " + i, x.judge(i, 1), i < 6 ? i : i + 1);
+        }
+        Due.is("the pot", x.count(3), 99);
+        Due.is("the case", x.count(2), 0);
+        Due.is("no verdict", x.count(4), -1);
     }
 
     @Says(promise = 10, value = "CASES go by: the CASE.")

@@ -183,6 +183,8 @@ public final class ReadEdgesTest {
         // The HAND that one has is none of these: by it alone it would be 1 in the first case.
         DregsVerdict own = Due.told("leaf 0 6;judge 0 12 0;pot 10;reads (case=0)*(where=1);");
         Due.is("without one's own", own.look(1), 1);
+        // HANDS 0 to 12 don't stir a leaf of 7; -1 and 13 would.
+        Due.is("HANDS 0 to 12", Due.told("leaf 0 7;judge 0 6 0;pot 10;reads 0<where;").look(1), 1);
         DregsVerdict five = Due.told("leaf 0 1;judge 0 6 0;pot 10;reads where;");
         Due.is("all five", five.look(1), 5);
         Due.is("in the first case", five.look(0), 1);
@@ -254,8 +256,12 @@ public final class ReadEdgesTest {
         }
         Due.is("the other one's first", game(1, 0).game(1, 0, 1), 1);
         Due.is("the other one's first", game(0, 1).game(1, 0, 1), 10);
-        Due.is("HAND 6: nobody turns it", Due.told("judge 0 6 0;judge 0 6 1;reads 0;").game(0, 1, 0), 1);
-        Due.is("HAND 6: nobody turns it", Due.told("judge 0 6 0;judge 0 6 1;reads 0;").game(0, 1, 1), 0);
+        for (int wish = 2; wish <= 3; wish++) {
+            // To turn HAND 6 only loses 1, whether one has the WISH or not.
+            DregsVerdict still = Due.told("judge 0 6 " + wish + ";judge 0 6 3;reads 3;");
+            Due.is("HAND 6: nobody turns it", still.game(0, 1, 0), 1);
+            Due.is("HAND 6: nobody turns it", still.game(0, 1, 1), 0);
+        }
         DregsVerdict eight = Due.told("leaf 0 1;judge 0 7 4;" + "judge 0 6 0;".repeat(6) + "judge 0 8 4;pot 10;reads where;");
         Due.is("the first and the last of eight", eight.game(7, 0, 0), 2);
         Due.is("who is not asked turns nothing", eight.game(3, 0, 1), 0);
@@ -519,7 +525,7 @@ public final class ReadEdgesTest {
 
     /** As many ACTS and READ as are kept, more of each behind the image, and all of them back. */
     private static void fortyInAnImage() {
-        DregsVerdict x = Due.told("pot 50;");
+        DregsVerdict x = Due.told("pot 50;reads case;");
         for (int i = 1; i <= 47; i++) {
             x.pot(i);
         }
@@ -531,11 +537,24 @@ public final class ReadEdgesTest {
             x.cases(1);
         }
         x.forget();
-        x.read(1, 4);
+        for (int k = 13; k <= 20; k++) {
+            x.read(k, 2);
+        }
         Due.is("restore()", x.restore(), true);
         Due.is("READ", x.count(10), 8);
         Due.is("all of it is so", x.handed(2), 1);
         Due.is("the ninth", x.read(9, 0), NONE);
+        x.cases(1);
+        Due.is("none of it is so one case on", x.handed(2), 0);
+        x.undo();
+        // An act is kept less by that one: the oldest gave way to it.
+        Due.is("39 are left", x.count(9), 39);
+        for (int left = 38; left >= 0; left--) {
+            Due.is("undo()", x.undo(), left);
+            Due.is("the pot", x.count(3), left + 8);
+        }
+        Due.is("no more", x.undo(), NONE);
+        x.restore();
         for (int left = 39; left >= 0; left--) {
             Due.is("undo()", x.undo(), left);
             Due.is("the pot", x.count(3), left + 7);

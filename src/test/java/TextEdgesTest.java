@@ -130,8 +130,28 @@ public final class TextEdgesTest {
         // 1 times 5, by 5, then 2 times 5, by 5, from 4 on: 7, and 1 LEAF there.
         Due.is("'where' and 'most' are read again", x.verdict(1, 0), 3);
         Due.missing("no second leaf", () -> x.leaf(1, 0));
+        // Nothing of the text ahead of the latest one comes back, either.
         Due.is("the same text once more", Due.tell(x, "judge 1 7 3;leaf 4 5;judge 2 8 4;"), 0);
         Due.is("its judges", x.count(1), 2);
+        Due.is("its leaves", x.count(0), 1);
+        Due.is("its pot", x.count(3), 60);
+        Due.is("it drinks THIRST", x.drunk(0, 1), 1);
+        Due.is("no leaves", Due.tell(x, "judge 1 7 3;reads where+most+odd;"), 0);
+        Due.is("'where' without LEAVES", x.count(6), 0);
+        Due.is("'where' without LEAVES", x.verdict(1, 0), 0);
+        for (int i = 0; i < 4; i++) {
+            Due.is("rules one way", Due.tell(x, "drinks 1+1+1;reads 2+2;judge 0 6 0;judge 0 6 0;"), 0);
+            Due.is("DRINKS", x.drunk(0, 1), 3);
+            Due.is("READS", x.verdict(1, 0), 4);
+            Due.is("a FAULT behind rules", Due.tell(x, "reads 0;drinks 9+9;x"), 1);
+            Due.is("rules the other way", Due.tell(x, "reads 3;drinks 5;judge 0 6 0;judge 0 6 0;"), 0);
+            Due.is("DRINKS", x.drunk(0, 1), 5);
+            Due.is("READS", x.verdict(1, 0), 3);
+        }
+        for (int i = 0; i < 4; i++) {
+            Due.is("a rule as long as a text", Due.tell(x, "reads 1" + "+1".repeat(346) + ";"), 0);
+            Due.is("all of it", x.verdict(1, 0), 347 % 5);
+        }
     }
 
     @Says(promise = 3, value = "or the FAULT (all stays, but STATUS).")
@@ -573,6 +593,10 @@ public final class TextEdgesTest {
         Due.is("without leaves", Due.told("reads where;").verdict(1, 0), 0);
         Due.is("at 0", Due.told("leaf 0 1;reads where;").verdict(1, 0), 0);
         Due.is("at 11", Due.told("leaf 11 1;reads where;").verdict(1, 0), 1);
+        DregsVerdict former = Due.told("leaf 11 1;leaf 11 1;reads where;");
+        former.verdict(1, 0);
+        Due.tell(former, "reads where+most;");
+        Due.is("without leaves by now", former.verdict(1, 0), 0);
         Due.is("of like ones the least", Due.told("leaf 9 1;leaf 3 1;leaf 8 1;reads where;").verdict(1, 0), 3);
         Due.is("two rather than one", Due.told("leaf 9 1;leaf 3 1;leaf 9 1;reads where;").verdict(1, 0), 4);
         Due.is("of DRINKS", Due.told("leaf 7 1;judge 0 6 0;judge 0 6 0;drinks where;").drunk(0, 1), 7);
