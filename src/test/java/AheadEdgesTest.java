@@ -235,6 +235,9 @@ public final class AheadEdgesTest {
         // Two judges by 3 each: what lies between is not swept.
         Due.is("behind them", Due.told("leaf 0 1;judge 0 9 0;judge 0 9 0;pot 10;").swept(1), 65);
         Due.is("each leaf", Due.told("leaf 0 1;leaf 11 9;leaf 5 9;judge 0 7 0;pot 10;").swept(1), 1 | 2 | 32 | 2048);
+        // By 6 the eighth leaf alone goes on; there are more leaves than judges, and more judges than leaves.
+        Due.is("the eighth leaf", Due.told("leaf 0 9;".repeat(7) + "leaf 0 6;judge 0 12 0;pot 10;").swept(1), 3);
+        Due.is("one leaf, eight judges", Due.told("leaf 1 1;" + "judge 0 7 0;".repeat(8) + "pot 10;").swept(1), 2 | 512);
     }
 
     @Says(promise = 22, value = {"SWEPT, as bits.", "IllegalArgumentException: not 0 to 60."})
@@ -393,6 +396,11 @@ public final class AheadEdgesTest {
         DregsVerdict x = Due.told("judge 9 6 0;judge 9 6 0;pot 60;reads level=50;");
         x.change(0, 1);
         Due.is("who sits first", x.toDrink(1, 1), 10);
+        // The first one is in the last SEAT, and drinks nothing.
+        DregsVerdict eight = Due.told("judge 1 6 0;".repeat(7) + "judge 9 6 0;pot 60;reads level=42;");
+        eight.change(7, 0);
+        Due.is("the eighth: 12, and six by 1", eight.toDrink(7, 1), 12);
+        Due.is("the eighth one's stays: 4, 9, and five by 1", eight.toDrink(6, 1), 4);
         Due.is("another one's stays", Due.told("judge 9 6 0;judge 9 6 0;judge 0 6 0;pot 60;reads level=50;").toDrink(1, 1), 1);
     }
 
@@ -604,6 +612,9 @@ public final class AheadEdgesTest {
         Due.is("the last one drinks nothing", Due.told("judge 1 6 0;judge 30 6 0;").thirstiest(60), 0);
         Due.is("nobody drinks: the least", Due.told("judge 0 6 0;judge 0 6 0;").thirstiest(60), 0);
         Due.is("the seventh of eight", Due.told("judge 1 6 0;".repeat(6) + "judge 2 6 0;judge 9 6 0;").thirstiest(1), 6);
+        DregsVerdict eight = Due.told("judge 1 6 0;".repeat(7) + "judge 2 6 0;");
+        eight.change(7, 3);
+        Due.is("the eighth, in another SEAT", eight.thirstiest(60), 7);
         // 30, 28, 26 .. against 29 in each case.
         DregsVerdict less = Due.told("judge 30 6 0;judge 29 6 0;judge 0 6 0;pot 99;drinks thirst-2*case*(seat=0);");
         Due.is("58 and 58", less.thirstiest(2), 0);

@@ -71,6 +71,11 @@ public final class CaseEdgesTest {
         Due.is("the seventh of eight", eight.drunk(6, 1), 5);
         Due.is("the eighth", eight.drunk(7, 1), 0);
         Due.is("all of them", eight.verdict(1, 1), 64);
+        DregsVerdict eighth = Due.told("judge 5 6 0;".repeat(7) + "judge 30 6 0;pot 99;");
+        eighth.change(7, 0);
+        Due.is("the eighth, in another SEAT", eighth.drunk(7, 1), 30);
+        Due.is("who sits last now", eighth.drunk(0, 1), 0);
+        Due.is("what is left", eighth.verdict(1, 1), 39);
     }
 
     @Says("LEVEL is less by what DRINKS gives (without it THIRST), kept to 0 to LEVEL;")
@@ -133,6 +138,11 @@ public final class CaseEdgesTest {
         lie("behind stirring", behindACase("leaf 11 1;leaf 0 9;barrister 0 7 0;pot 10;"), 0, 1);
         // The barrister is first, so that the judge stirs what was blown.
         lie("ahead of the next one", behindACase("leaf 0 1;leaf 0 1;" + blows + "judge 0 8 0;pot 10;"), 2, 3);
+        // The judge sits first now, and does not blow: the barrister parts the leaves ahead of blowing.
+        DregsVerdict changed = Due.told("leaf 0 1;leaf 0 9;barrister 0 7 0;judge 0 6 0;pot 10;");
+        changed.change(0, 1);
+        changed.cases(1);
+        lie("who it is, not where one sits", changed, 1, 0);
     }
 
     @Says("Then the VERDICT is what READS gives (without it 'where' and 'most'), MOD 5 (of one below 0: 5 more, until it "

@@ -185,6 +185,14 @@ public final class ReadEdgesTest {
         Due.is("without one's own", own.look(1), 1);
         // HANDS 0 to 12 don't stir a leaf of 7; -1 and 13 would.
         Due.is("HANDS 0 to 12", Due.told("leaf 0 7;judge 0 6 0;pot 10;reads 0<where;").look(1), 1);
+        // The eighth judge alone stirs: by one's HANDS it is 0, 1 and 11 (1) in the first case, and so on as above.
+        DregsVerdict eighth = Due.told(FIRST_OF_EIGHT.replace("where=1", "where"));
+        eighth.change(0, 7);
+        eighth.read(1, 1);
+        Due.is("by the eighth of eight judges", eighth.look(0), 2);
+        Due.is("2 and 10", eighth.look(1), 2);
+        DregsVerdict leaves = Due.told("leaf 0 6;leaf 0 9;judge 0 6 0;pot 10;reads most;");
+        Due.is("more leaves than judges", leaves.look(1), 2);
         DregsVerdict five = Due.told("leaf 0 1;judge 0 6 0;pot 10;reads where;");
         Due.is("all five", five.look(1), 5);
         Due.is("in the first case", five.look(0), 1);
@@ -537,8 +545,9 @@ public final class ReadEdgesTest {
             x.cases(1);
         }
         x.forget();
+        // None is as the one that was READ in its stead.
         for (int k = 13; k <= 20; k++) {
-            x.read(k, 2);
+            x.read(k, (k - 12) % 5);
         }
         Due.is("restore()", x.restore(), true);
         Due.is("READ", x.count(10), 8);
