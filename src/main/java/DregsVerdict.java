@@ -998,6 +998,9 @@ public final class DregsVerdict {
             level = pot;
             for (int seat = 0; seat < court.judges; seat++) {
                 int judge = seats[seat];
+                if (judge < 0 || judge >= MOST_JUDGES) {
+                    continue;
+                }
                 boolean last = seat == court.judges - 1;
                 int sip = last ? 0 : sipOf(judge, seat, court, reckoner);
                 sips[judge] = sip;
@@ -1128,8 +1131,10 @@ public final class DregsVerdict {
             odd = 0;
             for (int l = 0; l < court.leaves; l++) {
                 int place = cup.places[l];
-                heaps[place]++;
-                odd += place & 1;
+                if (place >= 0 && place < PLACES) {
+                    heaps[place]++;
+                    odd += place & 1;
+                }
             }
             most = 0;
             where = 0;
